@@ -560,14 +560,10 @@ public final class LeverFrame {
                     filled++;
                     code = 0;
                 } else {
-                    code = addLetter(code, c);
+                    code = code * 32 + (c - 'a' + 1);
                 }
             }
             return codes;
-        }
-
-        private static long addLetter(long code, int letter) {
-            return code * 32 + (letter - 'a' + 1);
         }
 
         void addNumber(int number) {
@@ -615,7 +611,7 @@ public final class LeverFrame {
             for (; reached < size && (isLetter(bytes[reached]) || isDigit(bytes[reached])); reached++) {
                 if (isLetter(bytes[reached])) {
                     letterCount++;
-                    letters = addLetter(letters, bytes[reached]);
+                    letters = letters * 32 + (bytes[reached] - 'a' + 1);
                 } else {
                     digitCount++;
                     value = value * 10 + (bytes[reached] - '0');
@@ -623,14 +619,10 @@ public final class LeverFrame {
             }
             if (digitCount == 0 && letterCount <= 7) {
                 kind = WORD;
-                findKey();
             } else {
                 kind = letterCount == 0 && digitCount <= 3 ? NUMBER : NO_TOKEN;
             }
-        }
-
-        private void findKey() {
-            for (int k = 0; k < keys.length; k++) {
+            for (int k = 0; k < keys.length && kind == WORD; k++) {
                 if (keys[k] == letters) {
                     key = k;
                 }
@@ -792,7 +784,7 @@ public final class LeverFrame {
 
         int find(int sort, long name) {
             for (int i = 0; i < count[sort] && i < MOST_SECTIONS; i++) {
-                if (nameOf(sort, i) == name) {
+                if (names[sort * MOST_SECTIONS + i] == name) {
                     return i;
                 }
             }
