@@ -1944,8 +1944,10 @@ public final class LeverFrame {
         }
     }
 
-    /** What is to be pulled ahead of a route, by which routes a train comes somewhere, and in how
-     *  many rounds all routes can be set; the first two as they were told last. */
+    /**
+     * What is to be pulled ahead of a route, by which routes a train comes somewhere, and in how
+     * many rounds all routes can be set; the first two as they were told last.
+     */
     private static final class Counsel {
         static final int FAR = 100;
 

@@ -117,6 +117,11 @@ public final class CounselTest {
         x.fail(3, 0);
         x.fail(1, 1);
         Check.due("its points can't be thrown", x.pulls(1), -1);
+        LeverFrame first = Check.laid("section a 1;section b 1;section c 1;points p a;points q c;"
+                + "track a b p reverse;track b c q reverse;signal g a down;route r g;over r b;over r c;");
+        Check.due("two to be thrown", first.pulls(0), 2);
+        first.fail(0, 1);
+        Check.due("the first can't be", first.pulls(0), -1);
         x.mend(1);
         x.set(0);
         x.back(0);
@@ -198,6 +203,8 @@ public final class CounselTest {
         }
         Check.due("no section", x.path(0, 5), -1);
         Check.due("the latest stays", x.pathAt(1), 3);
+        Check.due("there", x.path(0, 0), 0);
+        Check.due("none of the one before", x.pathAt(0), -1);
         // Locks, points, trains, failures are no matter.
         x.fail(1, 1);
         x.fail(2, 1);
@@ -261,6 +268,10 @@ public final class CounselTest {
         LeverFrame y = Check.laid(row + "train t sa down;");
         Check.due("300", y.comes(0, 10), 300);
         Check.due("330", y.comes(0, 11), -1);
+        LeverFrame z = Check.laid(row.toString().replace("section sk 30", "section sk 1") + "train t sa down;");
+        Check.due("301", z.comes(0, 11), -1);
+        z.ticks(1);
+        Check.due("300 from the next tick on", z.comes(0, 11), 300);
     }
 
     private static void meet() {
@@ -281,6 +292,11 @@ public final class CounselTest {
         }
         String end = "signal g sk down;train u sk down;train t sa down;";
         Check.due("behind 300", Check.laid(row + end).meet(), 300);
+        LeverFrame late = Check.laid(row.toString().replace("section sk 30", "section sk 1")
+                + "signal g sl down;train u sl down;train t sa down;");
+        Check.due("behind 301", late.meet(), -1);
+        late.ticks(1);
+        Check.due("behind 300", late.meet(), 300);
         Check.due("behind 330", Check.laid(row + "signal g sl down;train u sl down;train t sa down;").meet(), -1);
     }
 
@@ -472,5 +488,10 @@ public final class CounselTest {
         Check.due("none from now on", x.odds(30, 1), 0);
         LeverFrame sure = Check.laid("section a 2;section b 5;section c 2;track a b;track b c;train t a down;train u c up;");
         Check.due("all", sure.odds(30, 9), 30);
+        LeverFrame late = Check.laid("section a 30;section b 11;section c 1;track a b;track b c;signal g c down;"
+                + "train u c down;train t a down;");
+        Check.due("at the 41st tick", late.odds(30, 9), 0);
+        late.ticks(1);
+        Check.due("at the 40th tick", late.odds(30, 9), 30);
     }
 }

@@ -3,7 +3,9 @@ import java.util.Random;
 
 /** Drawn runs of calls, each answered alike by the class and by the model of the document. */
 public final class ModelTest {
-    private static final int RUNS = 400;
+    private static final int RUNS = 600;
+    /** What an object answers behind so many calls is free. */
+    private static final int MOST_CALLS = 512;
     private static final String[] CALLS = {"feed", "end", "layout", "fault", "section", "points", "signal", "route", "over",
         "train", "now", "set", "back", "turn", "fail", "mend", "ticks", "undo", "lacking", "lacks", "spare", "pulls", "pullsAt",
         "together", "those", "rounds", "path", "pathAt", "comes", "meet", "fits", "fitsAt", "ask", "mean", "tag", "byteAt",
@@ -46,7 +48,7 @@ public final class ModelTest {
             write(texts.layout());
             call("layout", 0, 0);
         }
-        int limit = 60 + rnd.nextInt(440);
+        int limit = 60 + rnd.nextInt(400);
         while (calls < limit && !wrong) {
             step();
         }
@@ -204,7 +206,7 @@ public final class ModelTest {
 
     /** Puts a text on the tape of both. */
     private void write(String text) {
-        if (wrong) {
+        if (wrong || calls + text.length() / 20 + 3 > MOST_CALLS) {
             return;
         }
         call("end", 0, 0);
@@ -229,7 +231,7 @@ public final class ModelTest {
     }
 
     private void call(String name, int a, int b) {
-        if (wrong) {
+        if (wrong || calls >= MOST_CALLS) {
             return;
         }
         int want = askModel(name, a, b);

@@ -275,6 +275,7 @@ public final class TextTest {
         Check.badLayout(Check.blanks(1399) + "^x", 1);
         // Tokens that begin ahead of the 1400th byte are read whole.
         Check.badLayout(Check.blanks(1394) + "hold ^31;", 2);
+        Check.badLayout(Check.blanks(1395) + "hold ^31;", 1);
         Check.badLayout(Check.blanks(1394) + "hold 3^0;", 1);
         Check.badLayout(Check.blanks(1393) + "section^ s 1;", 1);
         Check.badLayout(Check.blanks(1397) + "^sections 1;", 1);
