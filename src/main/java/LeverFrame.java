@@ -1310,16 +1310,6 @@ public final class LeverFrame {
             return bits;
         }
 
-        int routesThatAre(int what) {
-            int bits = 0;
-            for (int r = 0; r < plan.count[ROUTES]; r++) {
-                if (how[r] == what) {
-                    bits |= 1 << r;
-                }
-            }
-            return bits;
-        }
-
         int routesUsedBy(int train) {
             int bits = 0;
             for (int r = 0; r < plan.count[ROUTES]; r++) {
@@ -1414,6 +1404,17 @@ public final class LeverFrame {
                 how[route] = FREE;
             }
             return 0;
+        }
+
+        /** Routes that would be free at once, not held, if they were put back. */
+        int freeByPuttingBack() {
+            int bits = 0;
+            for (int r = 0; r < plan.count[ROUTES]; r++) {
+                if (how[r] == SET && !isApproached(plan.routeSignal[r])) {
+                    bits |= 1 << r;
+                }
+            }
+            return bits;
         }
 
         private boolean isApproached(int signal) {
@@ -1975,7 +1976,7 @@ public final class LeverFrame {
                 }
             }
             routes &= state.notFree();
-            if (stuck != 0 || (routes & ~state.routesThatAre(SET)) != 0) {
+            if (stuck != 0 || (routes & ~state.freeByPuttingBack()) != 0) {
                 return NONE;
             }
             pulledSize = 0;

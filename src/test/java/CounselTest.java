@@ -14,6 +14,7 @@ public final class CounselTest {
         spare();
         pulls();
         pullsThatCanNot();
+        pullsByWhoIsAhead();
         together();
         rounds();
         paths();
@@ -80,19 +81,23 @@ public final class CounselTest {
             Check.due("none such", x.pullsAt(no), -1);
         }
         x.set(0);
-        Check.due("rb: put rm back, throw p", x.pulls(1), 2);
-        Check.due("rm first", x.pullsAt(0), 0);
-        Check.due("p then", x.pullsAt(1), 16);
-        Check.due("nothing is done", x.now(2), 1);
+        Check.due("rm would be held, as ann is ahead of it", x.pulls(1), -1);
+        // The same frame without ann: rm is free at once, bob is not ahead of it.
+        LeverFrame z = Check.laid(Check.JUNCTION.replace("train ann w down;", ""));
+        z.fail(3, 0);
+        z.set(0);
+        Check.due("rb: put rm back, throw p", z.pulls(1), 2);
+        Check.due("rm first", z.pullsAt(0), 0);
+        Check.due("p then", z.pullsAt(1), 16);
+        Check.due("nothing is done", z.now(2), 1);
         // rm and ub are not locked, but rm needs the points that ub must have thrown.
-        x.fail(0, 0);
-        Check.due("ub", x.pulls(3), 2);
-        Check.due("rm", x.pullsAt(0), 0);
-        Check.due("p", x.pullsAt(1), 16);
-        Check.due("um: locked with rm", x.pulls(2), 1);
-        Check.due("rm alone", x.pullsAt(0), 0);
-        Check.due("none for one that is set", x.pulls(0), -1);
-        Check.due("the latest stays", x.pullsAt(0), 0);
+        Check.due("ub", z.pulls(3), 2);
+        Check.due("rm", z.pullsAt(0), 0);
+        Check.due("p", z.pullsAt(1), 16);
+        Check.due("um: locked with rm", z.pulls(2), 1);
+        Check.due("rm alone", z.pullsAt(0), 0);
+        Check.due("none for one that is set", z.pulls(0), -1);
+        Check.due("the latest stays", z.pullsAt(0), 0);
         // By number: routes ahead of points.
         LeverFrame y = Check.laid("section a 1;section b 1;section c 1;section d 1;section e 1;points q b;points p c;"
                 + "track a b q reverse;track b c;track c d p reverse;track e c p normal;track e b q normal;"
@@ -140,6 +145,48 @@ public final class CounselTest {
         LeverFrame none = Check.laid("section a 1;signal g a down;route r g;");
         Check.due("no sections", none.pulls(0), -1);
         Check.due("ahead of any that was not NONE", none.pullsAt(0), -1);
+    }
+
+    /** What would be held is no pull; what is free at once is one. */
+    private static void pullsByWhoIsAhead() {
+        Check.due("nobody in it", aheadOf("train x c down;"), 1);
+        Check.due("one who goes that way", aheadOf("train x a down;"), -1);
+        Check.due("one who goes the other way", aheadOf("train x a up;"), 1);
+        LeverFrame circuit = Check.laid(aheadText("train x a down;"));
+        circuit.set(0);
+        circuit.fail(0, 0);
+        Check.due("it shows clear, but the train is there", circuit.pulls(1), -1);
+        circuit.mend(0);
+        Check.due("put back", circuit.back(0), 0);
+        Check.due("held", circuit.pulls(1), -1);
+        Check.due("held to the end", circuit.ticks(3), 3);
+        Check.due("nothing to pull then", circuit.pulls(1), 0);
+        // Two that met in a are crashed: the route of its signal is free at once.
+        LeverFrame met = Check.laid("section z 2;section a 9;section b 1;section c 1;section d 1;track z a;track a b;"
+                + "track c d;signal g a down;signal h c down;route r g;over r b;route s h;over s d;lock r s;"
+                + "train x z down;train y a down;");
+        met.set(0);
+        Check.due("not crashed yet", met.pulls(1), -1);
+        met.ticks(2);
+        Check.due("both crashed", met.now(5), 3);
+        Check.due("free at once by a crashed one", met.pulls(1), 1);
+        Check.due("r", met.pullsAt(0), 0);
+        // A route that is no pull may be held without harm.
+        LeverFrame other = Check.laid(Check.JUNCTION.replace("train bob b up;", "train bob b up;section k 1;section l 1;"
+                + "track k l;signal ks k down;route kl ks;over kl l;"));
+        other.set(0);
+        Check.due("no matter for one that has nothing with it", other.pulls(4), 0);
+    }
+
+    private static String aheadText(String train) {
+        return "section a 9;section b 1;section c 9;section d 1;track a b;track c d;signal g a down;signal h c down;"
+                + "route r g;over r b;route s h;over s d;lock r s;" + train;
+    }
+
+    private static int aheadOf(String train) {
+        LeverFrame x = Check.laid(aheadText(train));
+        x.set(0);
+        return x.pulls(1);
     }
 
     private static void together() {

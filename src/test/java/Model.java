@@ -1075,11 +1075,8 @@ final class Model {
             boolean can = true;
             for (int i = 0; i < n + m && can; i++) {
                 if ((set >> i & 1) == 1) {
-                    can = i < n ? x.how[i].equals("set") : x.turn(i - n) == 0;
+                    can = i < n ? x.back(i) == 0 && x.free(i) : x.turn(i - n) == 0;
                     list.add(i < n ? i : 16 + i - n);
-                    if (i < n && can) {
-                        x.how[i] = "free";
-                    }
                 }
             }
             // Putting back the route itself makes no row that counts: it was not FREE.
