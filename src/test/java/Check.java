@@ -9,6 +9,24 @@ final class Check {
             + "route rm ws;over rm j;over rm m;route rb ws;over rb j;over rb b;"
             + "route um ms;over um j;over um w;route ub bs;over ub j;over ub w;"
             + "lock rm um;lock rb ub;lock um ub;train ann w down;train bob b up;hold 2;";
+    /**
+     * As many of each sort as there may be: twelve sections in a ring, a signal down in each of the
+     * first eight, routes from each to the next, and two of six sections each (ri, rj) that need
+     * the last points (r) reverse; all trains wait at signals, the last (te) at that of rj.
+     */
+    static final String FULL = "section a 1;section b 1;section c 1;section d 1;section e 1;section f 1;"
+            + "section g 1;section h 1;section i 1;section j 1;section k 1;section l 30;"
+            + "points m a;points n a;points o b;points p b;points q c;points r k;"
+            + "track a b;track b c;track c d;track d e;track e f;track f g;track g h;track h i;track i j;"
+            + "track j k;track k l r reverse;track l a;track a c m reverse;track a d n reverse;"
+            + "track b d o reverse;track b e p normal;"
+            + "signal s a down;signal t b down;signal u c down;signal v d down;signal w e down;"
+            + "signal x f down;signal y g down;signal z h down;"
+            + "route ra s;over ra b;route rb t;over rb c;route rc u;over rc d;route rd v;over rd e;"
+            + "route re w;over re f;route rf x;over rf g;route rg y;over rg h;route rh z;over rh i;"
+            + "route ri y;over ri h;over ri i;over ri j;over ri k;over ri l;over ri a;"
+            + "route rj z;over rj i;over rj j;over rj k;over rj l;over rj a;over rj b;"
+            + "train ta c down;train tb d down;train tc e down;train td f down;train te h down;hold 30;";
     static final int THROWS = Integer.MIN_VALUE;
 
     private static int wrong = 0;
