@@ -679,6 +679,10 @@ public final class EdgeTextTest {
         Check.badSentence(x, twenty + " and ^not in b", 4);
         Check.badSentence(x, twenty + " and ^zz", 1);
         Check.badSentence(x, twenty + " or^", 1);
+        String joined = "out" + Check.times(19, " and out");
+        Check.due("twenty joined by 'and'", Check.sentence(x, joined), 20);
+        Check.badSentence(x, joined + " and ^out", 4);
+        Check.badSentence(x, joined + " or ^out", 4);
         // A 'not' and a bracket count, each: 19 and 'not' 'out' are one too many.
         String nineteen = "out" + Check.times(18, " or out");
         Check.badSentence(x, nineteen + " or not ^out", 4);
